@@ -85,7 +85,7 @@ public final class SolutionBoxes {
 
     public int left(int k) throws IllegalStateException {
         Quotient quotient = known().quotient;
-        return k < 0 || k >= quotient.size ? -1 : Power.numberOf(quotient.keys[k]);
+        return k < 0 || k >= quotient.size ? -1 : Power.written(quotient.keys[k]);
     }
 
     public int at(int zero, int letter)
@@ -209,6 +209,7 @@ public final class SolutionBoxes {
     private static final class Power {
         static final int BITS = 5;
         static final int MASK = 31;
+        // The keys of letters 0, 1 and 2 themselves: 1024 for the degree, 32 or 1 for the exponent.
         static final int[] LETTER_KEYS = {1056, 1025, 1024};
 
         static int key(int first, int second, int third) {
@@ -240,7 +241,8 @@ public final class SolutionBoxes {
             return fits ? key(first, second, third) : -1;
         }
 
-        static int numberOf(int key) {
+        /** A power as the document writes it. */
+        static int written(int key) {
             return exponent(key, 0) + 16 * exponent(key, 1) + 256 * exponent(key, 2);
         }
 
@@ -564,7 +566,7 @@ public final class SolutionBoxes {
         }
 
         private void takeOff(int[] row, int r) {
-            int factor = row[pivots[r]];
+            int factor = pivots[r] < row.length ? row[pivots[r]] : 0;
             if (factor == 0) {
                 return;
             }
@@ -726,10 +728,12 @@ public final class SolutionBoxes {
             return exponent < 0 || exponent > degree ? 0 : numbers[exponent];
         }
 
+        /** Becomes what stands in a row from the start on, up to the degree. */
         void assign(int[] from, int start, int newDegree) {
-            Arrays.fill(numbers, 0);
-            System.arraycopy(from, start, numbers, 0, newDegree + 1);
-            settle(newDegree);
+            for (int k = 0; k < numbers.length; k++) {
+                numbers[k] = k <= newDegree && start + k < from.length ? from[start + k] : 0;
+            }
+            settle(numbers.length - 1);
         }
 
         void copy(OneLetter other) {
@@ -738,13 +742,16 @@ public final class SolutionBoxes {
         }
 
         private void settle(int most) {
-            degree = most;
+            degree = Math.min(most, numbers.length - 1);
             while (degree >= 0 && numbers[degree] == 0) {
                 degree--;
             }
         }
 
         void addTo(int exponent, int number) {
+            if (exponent < 0 || exponent >= numbers.length) {
+                return;
+            }
             numbers[exponent] = (numbers[exponent] + number) % NUMBERS;
             settle(Math.max(degree, exponent));
         }

@@ -222,7 +222,7 @@ public final class PromisesTest {
         setAndTake(x, 1, 1, 9 * X + 9 * Y + 8 * Z);
         CHECKS.due("the highest power of all", -2, () -> x.run());
         x.clear();
-        // y9 - x9 has the head x9: x9 z goes to y9 z, to z9 z by the other one, and so on.
+        // The second is z times the first.
         setAndTake(x, 0, 1, 9 * X, -1, 9 * Y);
         setAndTake(x, 1, 1, 9 * X + Z, -1, 9 * Y + Z);
         CHECKS.due("a multiple besides", -2, () -> x.run());
@@ -286,7 +286,7 @@ public final class PromisesTest {
         SolutionBoxes y = new SolutionBoxes(1);
         setAndTake(y, 0, 1, 9, -1, 0);
         // 32002 is 2 times 16001, a prime: 1 is the one ninth root of 1.
-        CHECKS.due("nine-th roots of 1", 1, () -> y.run());
+        CHECKS.due("ninth roots of 1", 1, () -> y.run());
         y.clear();
         setAndTake(y, 0, 1, 2, 1, 0);
         CHECKS.due("roots of -1", 0, () -> y.run());
@@ -398,7 +398,7 @@ public final class PromisesTest {
 
     private static void multiplicitySixteen() {
         SolutionBoxes x = new SolutionBoxes(2);
-        // x - y^8 has the head y^8, so that x^2 - y goes over all 16 powers of one letter.
+        // x is the eighth power of y and xx is 0, so the 16th power of y is the first that is 0.
         setAndTake(x, 0, 1, 8 * Y, -1, X);
         setAndTake(x, 1, 1, 2 * X);
         CHECKS.due("run()", 1, () -> x.run());
