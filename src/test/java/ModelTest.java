@@ -12,6 +12,8 @@ import java.util.Random;
 public final class ModelTest {
     private static final Checks CHECKS = new Checks();
     private static Random random;
+    // What take(), run() and askAll need at most: the writing of a list ends where no more calls are left.
+    private static final int CALLS_TO_ASK = 220;
     private static final int[] OUTCOMES = new int[20];
     private static int repeated;
 
@@ -237,98 +239,147 @@ public final class ModelTest {
     }
 
     private static void feed(String name, int n, List<Sum> list) {
-        SolutionBoxes x = new SolutionBoxes(n);
+        Counted x = new Counted(n);
         Model m = new Model(n);
         if (below(4) == 0) {
             noise(name, x, m);
             x.clear();
             m.clear();
         }
-        int calls = 0;
         for (int i = 0; i < list.size() && i < 14; i++) {
             int p = below(40);
-            List<Sum.Pow> pows = new ArrayList<>(list.get(i).terms.keySet());
-            Collections.shuffle(pows, random);
-            emptyOut(x, m, p);
-            long factor = below(2) == 0 ? 1 : 1 + below(32002);
-            for (Sum.Pow pow : pows) {
-                if (pow.a() > 9 || pow.b() > 9 || pow.c() > 9 || calls > 400) {
-                    continue;
-                }
-                calls++;
-                long above = list.get(i).terms.get(pow) * factor + 32003L * (below(7) - 3);
-                long under = 1 + below(32002);
-                int power = pow.written();
-                CHECKS.same(name + "term", Checks.outcome(() -> Checks.bit(m.term(p, above, under, power))),
-                        Checks.outcome(() -> Checks.bit(x.term(p, above, under, power))));
-                long over = above * under;
-                CHECKS.same(name + "term", Checks.outcome(() -> Checks.bit(m.term(p, over, under, power))),
-                        Checks.outcome(() -> Checks.bit(x.term(p, over, under, power))));
+            if (!emptyOut(x, m, p) || !write(name, x, m, p, list.get(i))) {
+                break;
             }
-            CHECKS.same(name + "take", Checks.outcome(() -> Checks.bit(m.take(p))),
-                    Checks.outcome(() -> Checks.bit(x.take(p))));
+            ask(name + "take", () -> bit(m.take(p)), () -> bit(x.take(p)));
             if (below(8) == 0) {
-                CHECKS.same(name + "run", Checks.outcome(m::run), Checks.outcome(x::run));
+                ask(name + "run", m::run, x::run);
             }
         }
-        CHECKS.same(name + "run", Checks.outcome(m::run), Checks.outcome(x::run));
-        OUTCOMES[x.run() + 3]++;
+        ask(name + "run", m::run, x::run);
+        OUTCOMES[m.run() + 3]++;
         askAll(name, x, m);
         noise(name, x, m);
-        CHECKS.same(name + "run", Checks.outcome(m::run), Checks.outcome(x::run));
-        askAll(name, x, m);
+        if (x.callsLeft() > 0) {
+            ask(name + "run", m::run, x::run);
+        }
+        askSome(name, x, m);
     }
 
-    private static void emptyOut(SolutionBoxes x, Model m, int p) {
+    private static long bit(boolean b) {
+        return b ? 1 : 0;
+    }
+
+    private static void ask(String what, Checks.Call model, Checks.Call asked) {
+        CHECKS.same(what, Checks.outcome(model), Checks.outcome(asked));
+    }
+
+    /** Writes a list's polynomial in any order; false if that would leave too few calls to ask in. */
+    private static boolean write(String name, Counted x, Model m, int p, Sum sum) {
+        List<Sum.Pow> pows = new ArrayList<>(sum.terms.keySet());
+        Collections.shuffle(pows, random);
+        long factor = below(2) == 0 ? 1 : 1 + below(32002);
+        for (Sum.Pow pow : pows) {
+            if (x.callsLeft() < CALLS_TO_ASK) {
+                return false;
+            }
+            if (pow.a() > 9 || pow.b() > 9 || pow.c() > 9) {
+                continue;
+            }
+            long number = sum.terms.get(pow) * factor;
+            int power = pow.written();
+            if (below(4) == 0) {
+                long other = number();
+                ask(name + "term", () -> bit(m.term(p, other, 1, power)), () -> bit(x.term(p, other, 1, power)));
+            }
+            long under = 1 + below(32002);
+            long above = number * under + 32003L * (below(7) - 3);
+            ask(name + "term", () -> bit(m.term(p, above, under, power)),
+                    () -> bit(x.term(p, above, under, power)));
+        }
+        return true;
+    }
+
+    private static boolean emptyOut(Counted x, Model m, int p) {
         for (Sum.Pow pow : new ArrayList<>(m.polys[p].terms.keySet())) {
+            if (x.callsLeft() < CALLS_TO_ASK) {
+                return false;
+            }
             m.term(p, 0, 1, pow.written());
             x.term(p, 0, 1, pow.written());
         }
+        return true;
     }
 
-    private static void askAll(String name, SolutionBoxes x, Model m) {
-        CHECKS.same(name + "total", Checks.outcome(m::total), Checks.outcome(x::total));
-        for (int i = -1; i < 18; i++) {
+    /** All that can be asked of what run() found, each border with it. */
+    private static void askAll(String name, Counted x, Model m) {
+        ask(name + "total", m::total, x::total);
+        int zeros = m.known ? m.zeros.size() : 0;
+        for (int i = -1; i <= 17; i++) {
             int k = i;
-            CHECKS.same(name + "left " + k, Checks.outcome(() -> m.left(k)), Checks.outcome(() -> x.left(k)));
-            CHECKS.same(name + "free " + k, Checks.outcome(() -> m.free(k)), Checks.outcome(() -> x.free(k)));
-            CHECKS.same(name + "multiplicity " + k, Checks.outcome(() -> m.multiplicity(k)),
-                    Checks.outcome(() -> x.multiplicity(k)));
-            for (int l = -1; l < 4; l++) {
+            ask(name + "left " + k, () -> m.left(k), () -> x.left(k));
+            for (int l = 0; l < m.n; l++) {
                 int letter = l;
-                CHECKS.same(name + "at " + k + " " + l, Checks.outcome(() -> m.at(k, letter)),
-                        Checks.outcome(() -> x.at(k, letter)));
-                CHECKS.same(name + "minimal " + l + " " + k, Checks.outcome(() -> m.minimal(letter, k)),
-                        Checks.outcome(() -> x.minimal(letter, k)));
+                ask(name + "minimal " + l + " " + k, () -> m.minimal(letter, k), () -> x.minimal(letter, k));
+            }
+        }
+        for (int i = -1; i <= zeros; i++) {
+            int zero = i;
+            ask(name + "multiplicity " + i, () -> m.multiplicity(zero), () -> x.multiplicity(zero));
+            for (int l = 0; l < m.n; l++) {
+                int letter = l;
+                ask(name + "at " + i + " " + l, () -> m.at(zero, letter), () -> x.at(zero, letter));
             }
             int p = below(42) - 1;
-            CHECKS.same(name + "value " + p + " " + k, Checks.outcome(() -> m.value(p, k)),
-                    Checks.outcome(() -> x.value(p, k)));
+            ask(name + "value " + p + " " + i, () -> m.value(p, zero), () -> x.value(p, zero));
         }
-        for (int what = -1; what < 4; what++) {
-            int w = what;
-            CHECKS.same(name + "count " + w, Checks.outcome(() -> m.count(w)), Checks.outcome(() -> x.count(w)));
+        for (int l : new int[] {-1, m.n}) {
+            ask(name + "minimal " + l + " 0", () -> m.minimal(l, 0), () -> x.minimal(l, 0));
+            ask(name + "at 0 " + l, () -> m.at(0, l), () -> x.at(0, l));
+        }
+        for (int i = -1; i < 4; i++) {
+            int k = i;
+            ask(name + "free " + k, () -> m.free(k), () -> x.free(k));
+            ask(name + "count " + k, () -> m.count(k), () -> x.count(k));
         }
         if (m.known) {
             repeated += (int) m.counts.stream().filter(c -> c > 1).count();
         }
     }
 
-    private static void noise(String name, SolutionBoxes x, Model m) {
-        for (int i = below(12); i > 0; i--) {
+    /** As many questions as the object has calls left, up to a bound, each anything. */
+    private static void askSome(String name, Counted x, Model m) {
+        for (int i = 0; i < 60 && x.callsLeft() > 0; i++) {
+            int a = below(20) - 2;
+            int b = below(6) - 1;
+            int p = below(42) - 1;
+            switch (below(8)) {
+                case 0 -> ask(name + "total", m::total, x::total);
+                case 1 -> ask(name + "left " + a, () -> m.left(a), () -> x.left(a));
+                case 2 -> ask(name + "at " + a + " " + b, () -> m.at(a, b), () -> x.at(a, b));
+                case 3 -> ask(name + "multiplicity " + a, () -> m.multiplicity(a), () -> x.multiplicity(a));
+                case 4 -> ask(name + "minimal " + b + " " + a, () -> m.minimal(b, a), () -> x.minimal(b, a));
+                case 5 -> ask(name + "value " + p + " " + a, () -> m.value(p, a), () -> x.value(p, a));
+                case 6 -> ask(name + "free " + b, () -> m.free(b), () -> x.free(b));
+                default -> ask(name + "count " + b, () -> m.count(b), () -> x.count(b));
+            }
+        }
+    }
+
+    private static void noise(String name, Counted x, Model m) {
+        for (int i = below(12); i > 0 && x.callsLeft() > 4; i--) {
             int p = below(44) - 2;
             int power = below(6) == 0 ? below(5000) - 100 : below(3) + 16 * below(3) + 256 * below(3);
             long above = below(4) == 0 ? random.nextLong() : number();
             long under = below(4) == 0 ? random.nextLong() : number();
-            CHECKS.same(name + "noise term", Checks.outcome(() -> Checks.bit(m.term(p, above, under, power))),
-                    Checks.outcome(() -> Checks.bit(x.term(p, above, under, power))));
+            ask(name + "noise term", () -> bit(m.term(p, above, under, power)),
+                    () -> bit(x.term(p, above, under, power)));
             if (below(10) == 0) {
-                CHECKS.same(name + "noise poly", Checks.outcome(m::poly), Checks.outcome(x::poly));
+                ask(name + "noise poly", m::poly, x::poly);
             }
             if (below(30) == 0) {
-                CHECKS.same(name + "noise take", Checks.outcome(() -> Checks.bit(m.take(p))),
-                        Checks.outcome(() -> Checks.bit(x.take(p))));
-                CHECKS.same(name + "total", Checks.outcome(m::total), Checks.outcome(x::total));
+                ask(name + "noise take", () -> bit(m.take(p)), () -> bit(x.take(p)));
+                ask(name + "total", m::total, x::total);
             }
         }
     }

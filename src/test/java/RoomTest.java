@@ -25,7 +25,7 @@ public final class RoomTest {
 
         SolutionBoxes x = objects[0];
         before = made();
-        for (int calls = 0; calls < 512; calls += 5) {
+        for (int calls = 0; calls < 505; calls += 5) {
             x.clear();
             x.term(0, calls + 1, 1, 9);
             x.take(0);
@@ -36,14 +36,14 @@ public final class RoomTest {
         System.out.println("some 512 calls on an object in use: " + bytes + " bytes");
         checks.dueTrue("calls that find rows made", bytes < 100_000);
 
+        SolutionBoxes y = objects[1];
         before = made();
-        x.clear();
         for (int calls = 0; calls < 400; calls++) {
-            x.term(1, 1, 1, calls % 10 + 16 * (calls / 10 % 10) + 256 * (calls / 100));
+            y.term(1, 1, 1, calls % 10 + 16 * (calls / 10 % 10) + 256 * (calls / 100));
         }
         for (int calls = 0; calls < 12; calls++) {
-            x.take(1);
-            x.run();
+            y.take(1);
+            y.run();
         }
         bytes = made() - before;
         System.out.println("a polynomial of 400 powers taken 12 times: " + bytes + " bytes");
