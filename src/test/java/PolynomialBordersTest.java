@@ -561,27 +561,25 @@ public final class PolynomialBordersTest {
 
     private static void clearedPolynomials() {
         CHECKS.sentence("13: No polynomials");
-        Counted x = new Counted(2);
-        for (int p = 0; p < 40; p++) {
-            x.set(p, own(p), X + 2 * Y, 1, 0);
+        for (int given : new int[] {0, 1, 2, 39, 40}) {
+            Counted x = new Counted(2);
+            for (int i = 0; i < given; i++) {
+                x.poly();
+            }
+            for (int p = 0; p < 40; p++) {
+                x.set(p, own(p), X + 2 * Y, 1, 0);
+            }
+            x.clear();
+            CHECKS.due("count(0) behind clear() of " + given, 0, () -> x.count(0));
+            for (int p = 0; p < 40; p++) {
+                int q = p;
+                CHECKS.no("0 at a power of polynomial " + p, () -> x.term(q, 0, 1, X + 2 * Y));
+                CHECKS.no("0 at 1 of polynomial " + p, () -> x.term(q, 0, 1, 0));
+            }
+            CHECKS.due("poly() behind clear() of " + given, 0, x::poly);
+            CHECKS.due("poly()", 1, x::poly);
+            CHECKS.due("count(0)", 2, () -> x.count(0));
         }
-        for (int p = 0; p < 40; p++) {
-            x.poly();
-            x.set(p, own(p), X + 2 * Y, 1, 0);
-        }
-        CHECKS.dueThrows("poly() when 40 were given", IllegalStateException.class, x::poly);
-        x.clear();
-        CHECKS.due("count(0)", 0, () -> x.count(0));
-        for (int p = 0; p < 40; p++) {
-            int q = p;
-            CHECKS.no("0 at a power of polynomial " + p, () -> x.term(q, 0, 1, X + 2 * Y));
-            CHECKS.no("0 at 1 of polynomial " + p, () -> x.term(q, 0, 1, 0));
-        }
-        CHECKS.due("poly()", 0, x::poly);
-        CHECKS.due("poly()", 1, x::poly);
-        CHECKS.due("count(0)", 2, () -> x.count(0));
-        x.clear();
-        CHECKS.due("poly() behind clear() of two", 0, x::poly);
     }
 
     private static void clearedTaken() {

@@ -13,6 +13,8 @@ public final class ZeroBordersTest {
     private static final int Z = 256;
 
     public static void main(String[] args) {
+        powersAbove();
+        powersDivided();
         zerosAreKnown();
         noZeroIsKnownToo();
         mostZeros();
@@ -91,6 +93,55 @@ public final class ZeroBordersTest {
                 () -> x.multiplicity(zero));
         CHECKS.dueThrows(name + ": value(0, " + zero + ")", IndexOutOfBoundsException.class,
                 () -> x.value(0, zero));
+    }
+
+    /** Whether a power is above another one, read from the document's words. */
+    private static boolean isAbove(int power, int other) {
+        int[] e = {power % 16, power / 16 % 16, power / 256};
+        int[] f = {other % 16, other / 16 % 16, other / 256};
+        int more = e[0] + e[1] + e[2] - f[0] - f[1] - f[2];
+        for (int letter = 0; letter < 3 && more == 0; letter++) {
+            more = e[letter] - f[letter];
+        }
+        return more > 0;
+    }
+
+    private static void powersAbove() {
+        CHECKS.sentence("Terms: ABOVE if its degree is greater, or the same and at the first letter where they"
+                + " differ it has more; the HEAD is its power that is above all others");
+        int[] exponents = {0, 1, 2, 9};
+        for (int i = 0; i < 64; i++) {
+            for (int j = 0; j < 64; j++) {
+                int power = exponents[i % 4] * X + exponents[i / 4 % 4] * Y + exponents[i / 16] * Z;
+                int other = exponents[j % 4] * X + exponents[j / 4 % 4] * Y + exponents[j / 16] * Z;
+                if (i == j) {
+                    continue;
+                }
+                // The sum of both less the one is the other: that stays just if the one is the sum's head.
+                Counted x = new Counted(3);
+                x.setAndTake(0, 1, power, 1, other);
+                x.setAndTake(1, 1, power);
+                CHECKS.dueTrue("run() of " + power + " + " + other + " and " + power,
+                        (x.run() == -1) == isAbove(power, other));
+            }
+        }
+    }
+
+    private static void powersDivided() {
+        CHECKS.sentence("Terms: it DIVIDES another one if none of its exponents is greater");
+        Counted x = ofPowers(2, 4 * X, 4 * Y, 2 * X + Y);
+        CHECKS.due("run()", 1, x::run);
+        // With the exponents of xxy, or with one that is greater, a power isn't left.
+        int[] due = {0, Y, X, 2 * Y, X + Y, 2 * X, 3 * Y, X + 2 * Y, 3 * X, X + 3 * Y};
+        CHECKS.due("total()", due.length, x::total);
+        for (int i = 0; i <= due.length; i++) {
+            int k = i;
+            CHECKS.due("left(" + k + ")", k < due.length ? due[k] : -1, () -> x.left(k));
+        }
+        Counted y = ofPowers(3, 2 * X, 2 * Y, 2 * Z, X + Y + Z);
+        CHECKS.due("run()", 1, y::run);
+        CHECKS.due("total() of 2 by 2 by 2 without the last", 7, y::total);
+        CHECKS.due("left(6)", X + Y, () -> y.left(6));
     }
 
     private static void zerosAreKnown() {
