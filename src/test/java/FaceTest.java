@@ -1,7 +1,13 @@
+import java.io.IOException;
 import java.lang.reflect.Constructor;
+import java.lang.reflect.Executable;
 import java.lang.reflect.Field;
 import java.lang.reflect.Method;
 import java.lang.reflect.Modifier;
+import java.nio.file.Files;
+import java.nio.file.Path;
+import java.util.ArrayList;
+import java.util.List;
 import java.util.Set;
 import java.util.TreeSet;
 
@@ -28,7 +34,9 @@ public final class FaceTest {
         "public int SolutionBoxes.count(int)",
     };
 
-    public static void main(String[] args) {
+    private static final Path DOCUMENT = Path.of("..", "shared", "DOC.md");
+
+    public static void main(String[] args) throws IOException {
         Checks checks = new Checks();
         Class<?> face = SolutionBoxes.class;
         checks.dueTrue("public and final",
@@ -45,6 +53,7 @@ public final class FaceTest {
         Constructor<?>[] constructors = face.getDeclaredConstructors();
         checks.same("constructors", "1", Integer.toString(constructors.length));
         checks.same("constructor", "public SolutionBoxes(int)", constructors[0].toString());
+        checks.same("members, by the document's code block", documentsMembers().toString(), members().toString());
         inside(checks, face, publicNames);
         for (Class<?> nested : face.getDeclaredClasses()) {
             checks.dueTrue(nested + " is static and not public", Modifier.isStatic(nested.getModifiers())
@@ -57,6 +66,47 @@ public final class FaceTest {
         }
         checks.dueTrue("at most twelve classes", face.getDeclaredClasses().length < 12);
         checks.end();
+    }
+
+    /** The lines of the document's code block, without the names of parameters. */
+    private static Set<String> documentsMembers() throws IOException {
+        Set<String> lines = new TreeSet<>();
+        boolean inside = false;
+        for (String line : Files.readAllLines(DOCUMENT)) {
+            inside = line.startsWith("```") ? line.equals("```java") : inside;
+            if (inside && line.endsWith(";")) {
+                lines.add(line.strip().replaceAll("(int|long) \\w+(?=[,)])", "$1"));
+            }
+        }
+        return lines;
+    }
+
+    /** What can be seen of the class, written as the document does. */
+    private static Set<String> members() {
+        Set<String> lines = new TreeSet<>();
+        for (Method m : SolutionBoxes.class.getDeclaredMethods()) {
+            if (!Modifier.isPrivate(m.getModifiers())) {
+                lines.add(written(m, m.getReturnType() + " " + m.getName()));
+            }
+        }
+        for (Constructor<?> c : SolutionBoxes.class.getDeclaredConstructors()) {
+            lines.add(written(c, c.getName()));
+        }
+        return lines;
+    }
+
+    private static String written(Executable member, String name) {
+        String thrown = names(member.getExceptionTypes());
+        return Modifier.toString(member.getModifiers()) + " " + name + "(" + names(member.getParameterTypes()) + ")"
+                + (thrown.isEmpty() ? "" : " throws " + thrown) + ";";
+    }
+
+    private static String names(Class<?>[] types) {
+        List<String> names = new ArrayList<>();
+        for (Class<?> type : types) {
+            names.add(type.getSimpleName());
+        }
+        return String.join(", ", names);
     }
 
     private static void inside(Checks checks, Class<?> type, Set<String> publicNames) {

