@@ -12,6 +12,7 @@ public final class TermsTest {
     private static final int X = 1;
     private static final int Y = 16;
     private static final int Z = 256;
+    private static final String ZERO = "Terms: A ZERO is a row of numbers at which all in the LIST are 0";
 
     public static void main(String[] args) {
         anyOrderOfTheList();
@@ -212,8 +213,6 @@ public final class TermsTest {
         }
     }
 
-    private static final String ZERO = "Terms: A ZERO is a row of numbers at which all in the LIST are 0";
-
     private static void zerosOfOneLetter() {
         CHECKS.sentence(ZERO + " (of one letter, by a trial of all numbers)");
         for (int i = 0; i < 60; i++) {
@@ -348,7 +347,7 @@ public final class TermsTest {
     }
 
     private static void objectsAreTheirOwn() {
-        CHECKS.sentence("Terms: POLYNOMIALS, TAKEN, THE LIST and ZEROS are each object's own");
+        CHECKS.sentence("1: A new object (what it holds is its own)");
         Counted x = withList(2, someBases(2).get(0));
         Counted y = withList(2, someBases(2).get(1));
         Counted fresh = new Counted(2);
